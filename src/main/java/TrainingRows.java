@@ -6,7 +6,6 @@ import java.util.Arrays;
  */
 public final class TrainingRows {
     private static final int NONE = -1;
-    private static final int MOST_CALLS = 512;
     private static final int MOST_PERSONS = 20;
     private static final int MOST_COURSES = 16;
     private static final int MOST_RESULTS = 300;
@@ -136,9 +135,6 @@ public final class TrainingRows {
         if (!holdsNow(person, course)) {
             throw new IllegalStateException("the person does not hold the course");
         }
-        if (records.isUseFull()) {
-            throw new IllegalStateException("the object is used beyond its calls");
-        }
         return records.addUse(pairOf(person, course), today, courses.caps[course]);
     }
 
@@ -146,12 +142,9 @@ public final class TrainingRows {
             throws IllegalArgumentException, IndexOutOfBoundsException {
         requirePair(person, course);
         requireRange(day, 0, LAST_DAY);
-        int pass = records.latestPassUpTo(pairOf(person, course), day);
-        if (pass == NONE) {
-            return false;
-        }
-        int putOff = records.putOffUpTo(pass, day);
-        return day < records.days[pass] + courses.terms[course] + putOff;
+        // A pass that has lapsed by a day is never put off behind it, since only what is held is
+        // used: so all its uses may count here, and the days of the uses need not be kept.
+        return day < lapseOf(records.latestPassUpTo(pairOf(person, course), day), course);
     }
 
     public int lapse(int person, int course) throws IllegalArgumentException {
@@ -272,7 +265,10 @@ public final class TrainingRows {
     }
 
     private int lapseNow(int person, int course) {
-        int pass = records.latestPass[pairOf(person, course)];
+        return lapseOf(records.latestPass[pairOf(person, course)], course);
+    }
+
+    private int lapseOf(int pass, int course) {
         if (pass == NONE) {
             return NONE;
         }
@@ -402,12 +398,8 @@ public final class TrainingRows {
         final int[] latestTryDay = new int[PAIRS];
         final int[] fails = new int[PAIRS];
         final int[] usedDay = new int[PAIRS];
-        /** Each use that put a pass off, for a look at days gone by. */
-        final int[] useOfPass = new int[MOST_CALLS];
-        final int[] useDay = new int[MOST_CALLS];
         int results;
         int passes;
-        int uses;
 
         Records() {
             Arrays.fill(latestPass, NONE);
@@ -416,10 +408,6 @@ public final class TrainingRows {
 
         boolean isFull() {
             return results >= MOST_RESULTS;
-        }
-
-        boolean isUseFull() {
-            return uses >= MOST_CALLS;
         }
 
         int addResult(int pair, int day, boolean passed) {
@@ -441,14 +429,11 @@ public final class TrainingRows {
         /** By how many days the latest pass is put off in all, this use among them. */
         int addUse(int pair, int day, int cap) {
             int pass = latestPass[pair];
-            if (pass == NONE || isUseFull()) {
+            if (pass == NONE) {
                 return 0;
             }
             if (usedDay[pair] != day && putOff[pass] < cap) {
                 putOff[pass]++;
-                useOfPass[uses] = pass;
-                useDay[uses] = day;
-                uses++;
             }
             usedDay[pair] = day;
             return putOff[pass];
@@ -463,16 +448,6 @@ public final class TrainingRows {
                 pass = passBefore[pass];
             }
             return NONE;
-        }
-
-        int putOffUpTo(int pass, int day) {
-            int putOffs = 0;
-            for (int use = 0; use < uses; use++) {
-                if (useOfPass[use] == pass && useDay[use] <= day) {
-                    putOffs++;
-                }
-            }
-            return putOffs;
         }
     }
 
@@ -533,7 +508,6 @@ public final class TrainingRows {
             if (seatOneMoreBehind(seat, settled | 1 << person)) {
                 return true;
             }
-            leave(seat, person);
             sit(seat, oldPerson);
             sit(oldSeat, person);
             return false;
