@@ -1,8 +1,20 @@
+import java.lang.reflect.InvocationTargetException;
+import java.lang.reflect.Method;
+import java.util.Arrays;
+import java.util.Comparator;
 import java.util.concurrent.Callable;
 
 /** Compares answers with those that are due; an exception counts by its very class. */
 final class Due {
+    static final Class<IllegalArgumentException> UNKNOWN = IllegalArgumentException.class;
+    static final Class<IndexOutOfBoundsException> RANGE = IndexOutOfBoundsException.class;
+    static final Class<IllegalStateException> STATE = IllegalStateException.class;
+    static final Class<UnsupportedOperationException> NO_ROOM = UnsupportedOperationException.class;
+
+    private static final int MOST_TOLD = 50;
+
     private int wrong = 0;
+    private String test = "";
 
     interface Step {
         void run();
@@ -24,6 +36,30 @@ final class Due {
                 });
     }
 
+    /** Runs each method that is marked with Says; one that breaks off does not stop the others. */
+    void runTestsOf(Object tests) {
+        Method[] methods = tests.getClass().getDeclaredMethods();
+        Arrays.sort(methods, Comparator.comparing(Method::getName));
+        for (Method method : methods) {
+            Says says = method.getAnnotation(Says.class);
+            if (says != null) {
+                test = method.getName() + " (\"" + says.value() + "\"): ";
+                runTest(tests, method);
+            }
+        }
+        test = "";
+    }
+
+    private void runTest(Object tests, Method method) {
+        try {
+            method.invoke(tests);
+        } catch (InvocationTargetException e) {
+            same("a call that must be taken", "no exception", String.valueOf(e.getCause()));
+        } catch (IllegalAccessException e) {
+            same("a test that can't be called", "no exception", String.valueOf(e));
+        }
+    }
+
     void is(String what, Object want, Callable<?> call) {
         same(what, String.valueOf(want), answerOf(call));
     }
@@ -40,11 +76,19 @@ final class Due {
         same(what, want.getSimpleName(), answerOf(step));
     }
 
+    /** The persons on the seats of the latest plan, in their order. */
+    void seats(String what, TrainingRows x, int... persons) {
+        for (int seat = 0; seat < persons.length; seat++) {
+            int place = seat;
+            is(what + ", seat " + seat, persons[seat], () -> x.seated(place));
+        }
+    }
+
     void same(String what, String want, String got) {
         if (!want.equals(got)) {
             wrong++;
-            if (wrong <= 50) {
-                System.out.println(what + " answered " + got + ", due is " + want);
+            if (wrong <= MOST_TOLD) {
+                System.out.println(test + what + " answered " + got + ", due is " + want);
             }
         }
     }

@@ -1,10 +1,9 @@
 /** Each promise of the document: ordinary inputs, the edges that it names, and wrong inputs. */
 public final class PromiseTests {
-    private static final Class<IllegalArgumentException> UNKNOWN = IllegalArgumentException.class;
-    private static final Class<IndexOutOfBoundsException> RANGE = IndexOutOfBoundsException.class;
-    private static final Class<IllegalStateException> STATE = IllegalStateException.class;
-    private static final Class<UnsupportedOperationException> NO_ROOM =
-            UnsupportedOperationException.class;
+    private static final Class<IllegalArgumentException> UNKNOWN = Due.UNKNOWN;
+    private static final Class<IndexOutOfBoundsException> RANGE = Due.RANGE;
+    private static final Class<IllegalStateException> STATE = Due.STATE;
+    private static final Class<UnsupportedOperationException> NO_ROOM = Due.NO_ROOM;
 
     private final Due due = new Due();
 
@@ -35,16 +34,6 @@ public final class PromiseTests {
         tests.count();
         tests.beyondTheCalls();
         tests.due.end();
-    }
-
-    /** Course 0 (term 10, pass mark 50, the cap) with person 0 as its instructor since day 0. */
-    private static TrainingRows withInstructor(int cap) {
-        TrainingRows x = new TrainingRows();
-        x.course(10, 50, cap);
-        x.found(0, 0);
-        x.teach(0, 0, true);
-        x.ratio(0, 10);
-        return x;
     }
 
     private void newObject() {
@@ -106,7 +95,7 @@ public final class PromiseTests {
         due.refusesStep("3: a circle of five", STATE, () -> x.need(4, 3));
         due.is("3: what is refused is no need", 0, () -> x.barred(9, 4));
         due.is("3: it is barred by its need", 1, () -> x.barred(9, 0));
-        TrainingRows both = withHolders(0b01, 0b11, 0b10);
+        TrainingRows both = Setups.withHolders(0b01, 0b11, 0b10);
         both.need(2, 0);
         both.need(2, 1);
         due.is("3: a second need leaves the first", 1, () -> both.barred(1, 2));
@@ -115,7 +104,7 @@ public final class PromiseTests {
     }
 
     private void pause() {
-        TrainingRows x = withInstructor(0);
+        TrainingRows x = Setups.withInstructor(0);
         for (int i = 0; i < 3; i++) {
             x.result(1, 0, 0);
         }
@@ -137,7 +126,7 @@ public final class PromiseTests {
         due.is("4: day 999 of 1000", 3, () -> x.barred(1, 0));
         x.day(1000);
         due.is("4: day 1000 of 1000", 0, () -> x.barred(1, 0));
-        TrainingRows first = withInstructor(0);
+        TrainingRows first = Setups.withInstructor(0);
         for (int i = 0; i < 3; i++) {
             first.result(1, 0, 0);
         }
@@ -185,7 +174,7 @@ public final class PromiseTests {
     }
 
     private void result() {
-        TrainingRows x = withInstructor(0);
+        TrainingRows x = Setups.withInstructor(0);
         x.course(10, 0, 0);
         x.need(1, 0);
         due.refuses("7: unknown person", UNKNOWN, () -> x.result(20, 0, 50));
@@ -264,7 +253,7 @@ public final class PromiseTests {
     }
 
     private void teach() {
-        TrainingRows x = withInstructor(0);
+        TrainingRows x = Setups.withInstructor(0);
         x.result(1, 0, 50);
         x.result(2, 0, 0);
         due.refusesStep("9: unknown person", UNKNOWN, () -> x.teach(20, 0, true));
@@ -288,7 +277,7 @@ public final class PromiseTests {
     }
 
     private void use() {
-        TrainingRows x = withInstructor(2);
+        TrainingRows x = Setups.withInstructor(2);
         due.refuses("10: unknown person", UNKNOWN, () -> x.use(20, 0));
         due.refuses("10: person -1", UNKNOWN, () -> x.use(-1, 0));
         due.refuses("10: unknown course", UNKNOWN, () -> x.use(0, 1));
@@ -303,11 +292,11 @@ public final class PromiseTests {
         x.day(12);
         due.refuses("10: lapsed", STATE, () -> x.use(0, 0));
 
-        TrainingRows none = withInstructor(0);
+        TrainingRows none = Setups.withInstructor(0);
         due.is("10: a cap of 0", 0, () -> none.use(0, 0));
         due.is("10: does not put off", 10, () -> none.lapse(0, 0));
 
-        TrainingRows most = withInstructor(50);
+        TrainingRows most = Setups.withInstructor(50);
         for (int day = 0; day < 55; day++) {
             int want = Math.min(day + 1, 50);
             most.day(day);
@@ -317,7 +306,7 @@ public final class PromiseTests {
     }
 
     private void useOnADayOfTwoPasses() {
-        TrainingRows x = withInstructor(1);
+        TrainingRows x = Setups.withInstructor(1);
         x.result(1, 0, 50);
         x.use(1, 0);
         x.result(1, 0, 50);
@@ -334,7 +323,7 @@ public final class PromiseTests {
     }
 
     private void holds() {
-        TrainingRows x = withInstructor(5);
+        TrainingRows x = Setups.withInstructor(5);
         due.refuses("11: unknown person", UNKNOWN, () -> x.holds(20, 0, 0));
         due.refuses("11: unknown course", UNKNOWN, () -> x.holds(0, 1, 0));
         due.refuses("11: unknown before range", UNKNOWN, () -> x.holds(0, 1, -1));
@@ -392,13 +381,13 @@ public final class PromiseTests {
         due.is("12: behind the last day", 11999, () -> x.lapse(19, 0));
         x.use(19, 0);
         due.is("12: put off", 12000, () -> x.lapse(19, 0));
-        TrainingRows y = withInstructor(0);
+        TrainingRows y = Setups.withInstructor(0);
         y.day(500);
         due.is("12: gone by", 10, () -> y.lapse(0, 0));
     }
 
     private void failed() {
-        TrainingRows x = withInstructor(0);
+        TrainingRows x = Setups.withInstructor(0);
         x.pause(0);
         due.refuses("13: unknown person", UNKNOWN, () -> x.failed(20, 0));
         due.refuses("13: unknown course", UNKNOWN, () -> x.failed(0, 1));
@@ -418,7 +407,7 @@ public final class PromiseTests {
     }
 
     private void barred() {
-        TrainingRows x = withInstructor(0);
+        TrainingRows x = Setups.withInstructor(0);
         x.course(100, 50, 0);
         x.course(100, 50, 0);
         x.need(1, 0);
@@ -500,7 +489,7 @@ public final class PromiseTests {
     }
 
     private void planRefusals() {
-        TrainingRows x = withInstructor(0);
+        TrainingRows x = Setups.withInstructor(0);
         due.is("16: a plan", 1, () -> x.plan(0L, 1, 10));
         due.refuses("16: unknown course", UNKNOWN, () -> x.plan(1L, 1, 10));
         due.refuses("16: unknown on seat 11", UNKNOWN, () -> x.plan(1L << 44, 12, 10));
@@ -520,7 +509,7 @@ public final class PromiseTests {
     }
 
     private void planSeats() {
-        TrainingRows x = withInstructor(0);
+        TrainingRows x = Setups.withInstructor(0);
         due.is("16: within 9 days", 0, () -> x.plan(0L, 1, 9));
         due.is("16: none on the seat", -1, () -> x.seated(0));
         due.is("16: within 10 days", 1, () -> x.plan(0L, 1, 10));
@@ -555,65 +544,40 @@ public final class PromiseTests {
         due.is("16: a seat left", -1, () -> all.seated(10));
     }
 
-    /** A course for each set of persons (bits), all with passes of today. */
-    private static TrainingRows withHolders(int... sets) {
-        TrainingRows x = new TrainingRows();
-        for (int course = 0; course < sets.length; course++) {
-            int first = Integer.numberOfTrailingZeros(sets[course]);
-            x.course(10, 0, 0);
-            x.ratio(course, 10);
-            x.found(first, course);
-            x.teach(first, course, true);
-            for (int person = first + 1; person < 20; person++) {
-                if ((sets[course] >> person & 1) != 0) {
-                    x.result(person, course, 0);
-                }
-            }
-        }
-        return x;
-    }
-
-    private void seats(String what, TrainingRows x, int... persons) {
-        for (int seat = 0; seat < persons.length; seat++) {
-            int place = seat;
-            due.is(what + ", seat " + seat, persons[seat], () -> x.seated(place));
-        }
-    }
-
     private void planIsTheFirst() {
-        TrainingRows two = withHolders(0b011, 0b001);
+        TrainingRows two = Setups.withHolders(0b011, 0b001);
         due.is("16: seat 0 gives way", 2, () -> two.plan(0x10L, 2, 10));
-        seats("16: seat 0 gives way", two, 1, 0);
+        due.seats("16: seat 0 gives way", two, 1, 0);
 
-        TrainingRows other = withHolders(0b011, 0b001, 0b010);
+        TrainingRows other = Setups.withHolders(0b011, 0b001, 0b010);
         due.is("16: another seat stays empty", 2, () -> other.plan(0x210L, 3, 10));
-        seats("16: seat 0 has the lowest, seat 1 none", other, 0, -1, 1);
+        due.seats("16: seat 0 has the lowest, seat 1 none", other, 0, -1, 1);
 
-        TrainingRows chain = withHolders(0b0011, 0b0110, 0b1100, 0b0001);
+        TrainingRows chain = Setups.withHolders(0b0011, 0b0110, 0b1100, 0b0001);
         due.is("16: a chain of moves", 4, () -> chain.plan(0x3210L, 4, 10));
-        seats("16: a chain of moves", chain, 1, 2, 3, 0);
+        due.seats("16: a chain of moves", chain, 1, 2, 3, 0);
         due.is("16: the chain without its end", 3, () -> chain.plan(0x210L, 3, 10));
-        seats("16: the chain without its end", chain, 0, 1, 2);
+        due.seats("16: the chain without its end", chain, 0, 1, 2);
 
-        TrainingRows takes = withHolders(0b011, 0b101, 0b100, 0b010);
+        TrainingRows takes = Setups.withHolders(0b011, 0b101, 0b100, 0b010);
         due.is("16: an emptied seat takes a later one's person", 3, () -> takes.plan(0x3210L, 4, 10));
-        seats("16: an emptied seat takes a later one's person", takes, 0, 2, -1, 1);
+        due.seats("16: an emptied seat takes a later one's person", takes, 0, 2, -1, 1);
 
-        TrainingRows freed = withHolders(0b001001, 0b010010, 0b101100, 0b000011, 0b000100);
+        TrainingRows freed = Setups.withHolders(0b001001, 0b010010, 0b101100, 0b000011, 0b000100);
         due.is("16: a seat takes a person who came free", 5, () -> freed.plan(0x43210L, 5, 10));
-        seats("16: a seat takes a person who came free", freed, 0, 4, 3, 1, 2);
+        due.seats("16: a seat takes a person who came free", freed, 0, 4, 3, 1, 2);
 
-        TrainingRows same = withHolders(0b001);
+        TrainingRows same = Setups.withHolders(0b001);
         due.is("16: a person on one seat at most", 1, () -> same.plan(0L, 3, 10));
-        seats("16: on the first", same, 0, -1, -1);
+        due.seats("16: on the first", same, 0, -1, -1);
 
-        TrainingRows late = withHolders(0b110, 0b001);
+        TrainingRows late = Setups.withHolders(0b110, 0b001);
         due.is("16: courses out of order", 3, () -> late.plan(0x001L, 3, 10));
-        seats("16: courses out of order", late, 0, 1, 2);
+        due.seats("16: courses out of order", late, 0, 1, 2);
     }
 
     private void seated() {
-        TrainingRows x = withInstructor(0);
+        TrainingRows x = Setups.withInstructor(0);
         due.refuses("17: no plan", UNKNOWN, () -> x.seated(0));
         x.plan(0L, 2, 10);
         due.is("17: a person", 0, () -> x.seated(0));
@@ -629,7 +593,7 @@ public final class PromiseTests {
     }
 
     private void tomorrow() {
-        TrainingRows x = withInstructor(5);
+        TrainingRows x = Setups.withInstructor(5);
         x.result(9, 0, 50);
         x.result(4, 0, 50);
         x.result(5, 0, 0);
@@ -656,7 +620,7 @@ public final class PromiseTests {
     }
 
     private void count() {
-        TrainingRows x = withInstructor(0);
+        TrainingRows x = Setups.withInstructor(0);
         x.course(100, 50, 0);
         x.found(0, 1);
         x.teach(0, 1, true);
@@ -687,16 +651,20 @@ public final class PromiseTests {
             x.day(person / 5);
             x.result(person, 0, 0);
         }
-        int strange = 0;
         for (int day = 5; day < 100; day++) {
-            x.day(day);
+            int next = day;
+            tellsNoMachineFault(Due.answerOf(() -> x.day(next)));
             for (int person = 0; person < 20; person++) {
                 int user = person;
-                String answer = Due.answerOf(() -> x.use(user, 0));
-                boolean plain = answer.equals("IllegalStateException") || answer.length() < 3;
-                strange += plain ? 0 : 1;
+                tellsNoMachineFault(Due.answerOf(() -> x.use(user, 0)));
             }
         }
-        due.same("beyond 512 calls", "0", String.valueOf(strange));
+    }
+
+    private void tellsNoMachineFault(String answer) {
+        boolean isFree = answer.matches("-?[0-9]+|done|" + UNKNOWN.getSimpleName() + "|"
+                + RANGE.getSimpleName() + "|" + STATE.getSimpleName() + "|"
+                + NO_ROOM.getSimpleName());
+        due.same("beyond 512 calls: " + answer, "true", String.valueOf(isFree));
     }
 }
