@@ -882,5 +882,10 @@ public final class TermsTests {
         x.course(10, 0, 0);
         due.is("a seat of a course without holders", 2, () -> x.plan(0x0102L, 4, 10));
         due.seats("a seat of a course without holders", x, -1, 0, 2, -1);
+
+        TrainingRows behind = Setups.withHolders(0b11, 0b01, 0b10);
+        behind.course(10, 0, 0);
+        due.is("the seats behind it are as without it", 2, () -> behind.plan(0x2103L, 4, 10));
+        due.seats("the seats behind it are as without it", behind, -1, 0, -1, 1);
     }
 }
