@@ -469,10 +469,8 @@ public final class TrainingRows {
         /** Seats as many as can be, then makes it the first of such plans: how many are seated. */
         int fill() {
             int seatedPersons = 0;
-            for (int seat = 0; seat < seats; seat++) {
-                if (seatOneMore(seat, 0)) {
-                    seatedPersons++;
-                }
+            while (seatedPersons < seats && seatOneMore(0, 0)) {
+                seatedPersons++;
             }
             int settled = 0;
             for (int seat = 0; seat < seats; seat++) {
@@ -505,7 +503,7 @@ public final class TrainingRows {
             if (oldPerson == NONE || oldSeat == NONE) {
                 return true;
             }
-            if (seatOneMoreBehind(seat, settled | 1 << person)) {
+            if (seatOneMore(seat + 1, settled | 1 << person)) {
                 return true;
             }
             sit(seat, oldPerson);
@@ -525,20 +523,13 @@ public final class TrainingRows {
             }
         }
 
-        private boolean seatOneMoreBehind(int seat, int settled) {
-            for (int later = seat + 1; later < seats; later++) {
-                if (personOn[later] == NONE && seatOneMore(later, settled)) {
-                    return true;
-                }
-            }
-            return false;
-        }
-
-        /** Looks, in widening rings from an empty seat, for a chain of moves to a free person. */
-        private boolean seatOneMore(int emptySeat, int settled) {
+        /**
+         * Looks, in widening rings from the empty seats, for a chain of moves to a free person;
+         * the seats before the first one and the settled persons stay as they are.
+         */
+        private boolean seatOneMore(int firstSeat, int settled) {
             int seen = settled;
-            int queued = 1;
-            queue[0] = emptySeat;
+            int queued = queueEmptySeats(firstSeat);
             for (int next = 0; next < queued && next < MOST_SEATS; next++) {
                 int seat = queue[next];
                 for (int person = 0; person < MOST_PERSONS; person++) {
@@ -558,6 +549,17 @@ public final class TrainingRows {
                 }
             }
             return false;
+        }
+
+        private int queueEmptySeats(int firstSeat) {
+            int queued = 0;
+            for (int seat = firstSeat; seat < seats; seat++) {
+                if (personOn[seat] == NONE) {
+                    queue[queued] = seat;
+                    queued++;
+                }
+            }
+            return queued;
         }
 
         /** Moves each person of the chain on; it ends at the seat that was empty. */
